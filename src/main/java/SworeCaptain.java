@@ -1207,8 +1207,8 @@ public final class SworeCaptain {
         }
 
         boolean isOfAge(int w, int year) {
-            int years = year - born[w];
-            return years >= 16 && years <= 40;
+            int age = year - born[w];
+            return age >= 16 && age <= 40;
         }
 
         int unrivalledIn(int w, int year) {
@@ -1267,7 +1267,7 @@ public final class SworeCaptain {
             return best;
         }
 
-        /** So much in a hundred on each day of the trial, out of 100 on each: the whole trial's. */
+        /** What so much in a hundred each day makes of the whole trial, out of what 100 makes. */
         long overTrial(int perDay) {
             long product = 1;
             for (int day = 0; day < trial; day++) {
@@ -1439,10 +1439,10 @@ public final class SworeCaptain {
     private static final class Route {
         final int[] best = new int[LONGEST_ROUTE];
         int found;
-        /** By the best row: how likely none is TRUE, out of whole() by each of its landings. */
+        /** By the best row: how likely none is TRUE, out of wholeOfRow(). */
         private long leastMiss;
         private final int[] row = new int[LONGEST_ROUTE];
-        /** Of each landing to come and woman: how likely she is TRUE, out of whole; 0 if she can't be. */
+        /** Of each landing to come and woman: how likely she is TRUE, out of whole; 0 if she may not stand there. */
         private final long[][] chance = new long[LONGEST_ROUTE][ROOM[WOMEN]];
         private long whole;
         private int length;
@@ -1513,16 +1513,14 @@ public final class SworeCaptain {
         /** Letters, as bits, that come to a harbour at a landing to come. */
         private final int[][] due = new int[LONGEST_POST][ROOM[HARBOURS]];
         /** Letters, as bits, that can come to any harbour from a landing to come on. */
-        private final int[] open = new int[LONGEST_POST + 1];
+        private final int[] open = new int[LONGEST_POST];
         private int length;
 
         void seek(Oath oath, Moment now, int landings) {
             length = Math.min(landings, LONGEST_POST);
             most = -1;
-            for (int i = 0; i <= length; i++) {
+            for (int i = 0; i < length; i++) {
                 open[i] = 0;
-            }
-            for (int i = length - 1; i >= 0; i--) {
                 for (int h = 0; h < oath.count[HARBOURS]; h++) {
                     due[i][h] = oath.lettersDue(h, now.landing + 1 + i) & ~now.brought;
                     open[i] |= due[i][h];

@@ -86,6 +86,13 @@ public final class NearlyTest {
         check.due(y, "surely(0)", y.surely(0), -2, 0);
         check.due(y, "firstOf(0)", y.firstOf(0), -2, 0);
         check.due(y, "judge(), the first", y.judge(), 1, 0);
+        SworeCaptain z = Check.told(WOMEN + ";nearly landing 0 age 16");
+        check.due(z, "judge(), the only one", z.judge(), 0, 0);
+        check.due(z, "rows(), no woman for the only one", z.rows(), 0, 0);
+        SworeCaptain one = Check.told(WOMEN + ";nearly landing 3 age 21");
+        check.due(one, "rows(), one told", one.rows(), 3, 0);
+        check.due(one, "could(0), one told", one.could(0), 11, 0);
+        check.due(one, "askLeaves(), one told", one.askLeaves(), 1, 0);
     }
 
     private void questions() {

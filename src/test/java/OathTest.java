@@ -19,6 +19,8 @@ public final class OathTest {
         t.many();
         t.lacks();
         t.longText();
+        t.cutText();
+        t.tellingAgain();
         t.check.end();
     }
 
@@ -170,6 +172,8 @@ public final class OathTest {
         faultyBehind(BASE + ";sea h g", " g", 1);
         faultyBehind(BASE + ";woman w", " shy", 1);
         faultyBehind(BASE + ";woman w", " 1", 1);
+        faultyBehind(BASE + ";woman w", " years", 1);
+        faultyBehind(BASE + ";woman w", " oath", 1);
         faultyBehind(BASE + ";woman w plain", " at", 1);
         faultyBehind(BASE + ";woman w plain in h", " born", 1);
         faultyBehind(BASE + ";woman w plain in h heart 1", " heart", 1);
@@ -184,6 +188,7 @@ public final class OathTest {
     private void tokens() {
         good("oath years5trial1;harbour h news1worth1;woman w plain in h heart9born0", 1);
         good("  oath  years 005 trial 01 ;harbour h news 000 worth 099 ; woman w half in h heart 1 born 1  ", 1);
+        good(SWORN + ";harbour azaz news 1 worth 1;woman zaza half in azaz heart 1 born 1", 1);
         good(SWORN + ";harbour abcdefgh news 1 worth 1;woman abcdefg sold in abcdefgh heart 1 born 1", 1);
         faulty(SWORN + ";harbour abcdefghi news", 1, 29);
         faulty("oath years 1234", 1, 11);
@@ -310,6 +315,42 @@ public final class OathTest {
         faulty(SWORN + "  ", 6, 22);
         faulty(BASE, 6, BASE.length());
         faulty(SWORN + ";hand n joined 1 part 1", 6, 43);
+    }
+
+    /** Only the first n bytes count, in the middle of a TOKEN too. */
+    private void cutText() {
+        String text = FULL + "23 woman";
+        SworeCaptain x = new SworeCaptain();
+        Check.feed(x, text);
+        check.due(x, "oath, a WHOLE cut", x.oath(FULL.length()), 1, 0);
+        check.due("born", x.woman(0, 3), 1);
+        Check.feed(x, text);
+        check.due(x, "oath, cut behind one digit more", x.oath(FULL.length() + 1), 1, 0);
+        check.due("born", x.woman(0, 3), 12);
+        Check.feed(x, FULL + ";hand nabcdefghij joined 1 part 1");
+        check.due(x, "oath, a NAME cut", x.oath(FULL.length() + 14), -1, 4);
+        check.due("where(), the end behind the NAME", x.where(), FULL.length() + 14);
+        Check.feed(x, SWORN + ";harbours");
+        check.due(x, "oath, a WORD cut", x.oath(28), -1, 4);
+        check.due("where(), the end behind the WORD", x.where(), 28);
+    }
+
+    /** The same object is told text upon text: nothing of those ahead stays. */
+    private void tellingAgain() {
+        SworeCaptain x = new SworeCaptain();
+        for (int i = 0; i < 4; i++) {
+            check.due(x, "the example again", Check.tell(x, Check.EXAMPLE), 4, 0);
+            check.due("harbours", x.size(2), 3);
+            check.due("a smaller one", Check.tell(x, SWORN + ";harbour cape news 1 worth 1;woman ann plain in cape heart 1 born 1"), 1);
+            int[] sizes = {5, 1, 1, 0, 1, 0, 0, 0, 0};
+            for (int what = 0; what < sizes.length; what++) {
+                check.due("size(" + what + ")", x.size(what), sizes[what]);
+            }
+            check.due("no sea", x.harbour(0, 2), 0);
+            check.due("no rival", x.woman(0, 4), 0);
+            check.due("a faulty one", Check.tell(x, Check.EXAMPLE + ";"), -1);
+            check.due("the smaller one stays", x.size(4), 1);
+        }
     }
 
     private void longText() {

@@ -139,6 +139,9 @@ public final class PlansTest {
             + "woman q proud in b heart 10 born 0");
         x.sail(0);
         check.due(x, "a route can't cross where there is no sea", x.routeAt(1, 0), 1, 0);
+        check.due(x, "routes(1)", x.routes(1), 1, 0);
+        check.due(x, "mean(1) of one row, upper", x.mean(1, false), 1, 0);
+        check.due(x, "mean(1) of one row, lower", x.mean(1, true), 10, 0);
         check.due(x, "routes(2)", x.routes(2), 0, 0);
         check.due(x, "route(2) upper", x.route(2, false), 0, 0);
         check.due(x, "route(2) lower", x.route(2, true), 1, 0);
@@ -213,6 +216,9 @@ public final class PlansTest {
         check.due(x, "lettersAt(5, 0), nothing to bring", x.lettersAt(5, 0), 1, 0);
         check.due(x, "lettersAt(5, 4), nothing to bring", x.lettersAt(5, 4), 0, 0);
 
+        SworeCaptain z = Check.told(Check.EXAMPLE);
+        z.sail(0);
+        check.due(z, "lost(), bay by 1 and isle by 2", z.lost(), 3, 0);
         SworeCaptain y = Check.told("oath years 7 trial 1;harbour a news 0 worth 0;harbour b news 0 worth 0;"
             + "woman w plain in a heart 1 born 1;letter a by 1;letter b by 5;letter a by 1");
         check.due(y, "by landing there again", y.letters(1), 2, 0);

@@ -44,6 +44,8 @@ public final class TradeTest {
         check.due(x, "rests(40)", x.rests(40), 10, 0);
         check.due(x, "rest(40)", x.rest(40), 0, 0);
         check.due(x, "rests(0)", x.rests(0), 10, 0);
+        check.due(x, "rest(0)", x.rest(0), 0, 0);
+        check.due(x, "rest(99)", x.rest(99), 0, 0);
         // Of worth 5: asked 0 to 5 and as much bid; asked 5 to 9 and nothing bid, but for 0.
         check.due(x, "rests(5)", x.rests(5), 6 + 5, 0);
         check.due(x, "rests(9)", x.rests(9), 10 + 1, 0);
@@ -97,6 +99,9 @@ public final class TradeTest {
         SworeCaptain none = Check.told(text);
         check.due(none, "bestHand without hands", none.bestHand(100, 3), -2, 0);
         check.due(none, "part without hands", none.part(0, 100, 3), -1, 1);
+        SworeCaptain one = Check.told(text + ";hand a joined 6 part 1;hand b joined 60 part 9");
+        check.due(one, "part, one year in all", one.part(0, 7, 1), 7, 0);
+        check.due(one, "bestHand, one year in all", one.bestHand(7, 1), 0, 0);
 
         // Services 7, 7, 7, 14, 0 of 35 at landing 1; of 4: 0.8, 0.8, 0.8, 1.6, 0: three are left for the first three.
         SworeCaptain y = Check.told(text + ";hand a joined 0 part 1;hand b joined 0 part 1;hand c joined 0 part 1;"

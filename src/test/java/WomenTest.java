@@ -172,6 +172,8 @@ public final class WomenTest {
         check.due(x, "present(31)", x.present(31), -1, 2);
         check.due(x, "present(-1)", x.present(-1), -1, 2);
         check.due(y, "present without heart", y.present(4), 0, 0);
+        check.due(y, "present by 1 in a hundred", y.present(16), 2, 0);
+        check.due(y, "belle by 1 in a hundred", y.belle(0, 16), 1, 0);
     }
 
     private void belles() {
@@ -225,6 +227,9 @@ public final class WomenTest {
         check.due(x, "bestYears(0), all like", x.bestYears(0), 5, 0);
         // At landing 5: in year 25 and 30 all.
         check.due(x, "bestYears(5)", x.bestYears(5), 5, 0);
+        // At landing 2: a woman born in 0 is 16 by 8 years; one born in 2 by 9 years.
+        SworeCaptain y = Check.told("oath years 5 trial 1;harbour h news 0 worth 0;woman a proud in h heart 9 born 2");
+        check.due(y, "bestYears(2), the last", y.bestYears(2), 9, 0);
         check.due(x, "bestYears(31)", x.bestYears(31), -1, 2);
         check.due(x, "bestYears(-1)", x.bestYears(-1), -1, 2);
     }
