@@ -572,7 +572,8 @@ public final class SworeCaptain {
             case 10:
                 return now.harbour;
             case 11:
-                return now.freedBy;
+                // Without an OATH there is no captain of whom NOBODY could be told.
+                return oath.isTold() ? now.freedBy : 0;
             case 12:
                 return now.seed;
             case 13:

@@ -619,7 +619,8 @@ final class Model {
         if (what >= 2 && what <= 8) {
             return many(what - 2);
         }
-        int[] rest = {now.landing, now.harbour, now.freed, now.seed, ahead.size(), images.size(), tape.length()};
+        int freed = told == null ? 0 : now.freed;
+        int[] rest = {now.landing, now.harbour, freed, now.seed, ahead.size(), images.size(), tape.length()};
         return what >= 9 ? rest[what - 9] : told == null ? 0 : line(7, 0)[what];
     }
 

@@ -27,12 +27,16 @@ public final class OathTest {
     private void newObject() {
         SworeCaptain x = new SworeCaptain();
         for (int what = 0; what <= 15; what++) {
-            check.due("new size(" + what + ")", x.size(what), what == 11 ? -2 : 0);
+            check.due("new size(" + what + ")", x.size(what), 0);
         }
+        check.due("new size(-1)", x.size(-1), -1);
+        check.due("new size(16)", x.size(16), -1);
         check.due("new trouble()", x.trouble(), 0);
         check.due("new fault()", x.fault(), 0);
         check.due("new where()", x.where(), -1);
         check.due("NONE", SworeCaptain.NONE, -1);
+        check.due("a faulty first oath", Check.tell(x, "what"), -1);
+        check.due("size(11) behind a faulty first oath", x.size(11), 0);
     }
 
     private void tape() {
