@@ -11,7 +11,8 @@ import java.util.Random;
 /** Runs of calls drawn by fixed seeds: the class and the Model must answer alike, trouble() too. */
 public final class ModelTest {
     private static final int OBJECTS = Integer.getInteger("objects", 1500);
-    private static final int CALLS = 450;
+    /** A text takes up to 100 calls more, and an object has 512. */
+    private static final int CALLS = 400;
     private static final long THREW = Long.MIN_VALUE;
 
     private final Random random;
@@ -149,9 +150,10 @@ public final class ModelTest {
         String call = name + Arrays.toString(a);
         run.add(call + " = " + want);
         check.due(call, got, want);
-        long trouble = model.answer("trouble", new int[0]);
-        check.due("trouble() behind " + call, x.trouble(), trouble);
-        if (got != want || x.trouble() != trouble) {
+        long trouble = x.trouble();
+        long troubleDue = model.answer("trouble", new int[0]);
+        check.due("trouble() behind " + call, trouble, troubleDue);
+        if (got != want || trouble != troubleDue) {
             run.forEach(System.out::println);
             return false;
         }
