@@ -16,6 +16,7 @@ public final class LifeEdgesTest extends Edges {
         t.refusedTogether();
         t.drawsAtTheEdge();
         t.freedLandsNoMore();
+        t.oneBehindTheOther();
         t.check.end();
     }
 
@@ -117,5 +118,12 @@ public final class LifeEdgesTest extends Edges {
         answers(two, "lifeBy(28652, 2)", 1);
         answers(two, "life(28652, 2)", 2);
         answers(two, "life(28652, 1)", 0);
+    }
+
+    /** A LIFE leaves nothing behind: neither SEED nor who is TRIED, nor that he was FREED in it. */
+    private void oneBehindTheOther() {
+        run(TOLD.make(), "life(0, 20) = 4", "life(0, 3) = 0", "lifeBy(0, 20) = 2", "lifeBy(0, 3) = -2", "life(0, 0) = 0", "life(0, 21) = -1 ! 2",
+            "life(0, 20) = 4 ! 0", "lives(0, 30) = 8", "lives(0, 30) = 8", "lives(0, 1) = 0", "life(65536, 20) = 4", "size(12) = 0", "sail(0) = 1",
+            "life(0, 20) = 3", "undo() = 1", "life(0, 20) = 4", "seed(65536) = 1", "life(0, 20) = 4", "size(12) = 65536");
     }
 }

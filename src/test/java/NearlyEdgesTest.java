@@ -22,6 +22,7 @@ public final class NearlyEdgesTest extends Edges {
         t.promise38And39();
         t.promise40();
         t.whatDoesNotMatter();
+        t.oneBehindTheOther();
         t.check.end();
     }
 
@@ -124,5 +125,16 @@ public final class NearlyEdgesTest extends Edges {
         answers(LAST, "rows()", 1);
         answers(new Scene("TRIED", Check.EXAMPLE, "court(0)"), "rows()", 1);
         answers(new Scene("TRIED", Check.EXAMPLE, "court(0)"), "surely(0)", 0);
+    }
+
+    /** Nothing is left of a question in the next one, nor of an OATH in another one. */
+    private void oneBehindTheOther() {
+        SworeCaptain x = FULL.make();
+        run(x, "rows() = 360", "rows() = 360", "ask() = 0", "askLeaves() = 60", "askLeaves() = 60", "could(3) = 237", "surely(3) = -2",
+            "firstOf(3) = 5", "could(4) = -1 ! 1", "could(0) = 237 ! 0", "rows() = 360", "oath(100) = 1", "rows() = -1 ! 6", "could(0) = -1 ! 1");
+        Check.tell(x, TWO + ";nearly landing 5 age 39");
+        run(x, "rows() = 1", "could(0) = 2", "surely(0) = 1", "firstOf(0) = 1", "askLeaves() = 1", "could(1) = -1 ! 1");
+        Check.tell(x, TWO + ";nearly landing 0 age 16");
+        run(x, "rows() = 0", "could(0) = 0", "surely(0) = -2", "firstOf(0) = -2", "ask() = -2", "askLeaves() = -2", "judge() = 0");
     }
 }

@@ -37,6 +37,7 @@ public final class OathEdgesTest extends Edges {
         t.oathAtTheBoundsOfN();
         t.oathOfSomeOfTheTape();
         t.oathBeginsAnew();
+        t.nothingStaysOfTexts();
         t.oathRefusedByFault();
         t.faultOfTheLatest();
         t.whereBehindEachCall();
@@ -131,6 +132,8 @@ public final class OathEdgesTest extends Edges {
         }
         SworeCaptain x = new SworeCaptain();
         run(x, "oath(1) = -1 ! 2", "fault() = 0", "where() = -1", "oath(-1) = -1 ! 2", "oath(0) = -1 ! 4", "fault() = 1", "where() = 0");
+        Check.feed(x, " ".repeat(20));
+        run(x, "oath(0) = -1 ! 4", "fault() = 1", "where() = 0", "size(15) = 0");
     }
 
     /** n from 0 to as many bytes as THE TAPE has; "how many women", 1 to 8. */
@@ -173,6 +176,20 @@ public final class OathEdgesTest extends Edges {
         check.due(x, "the same OATH again", Check.tell(x, SMALL), 1, 0);
         run(x, begun);
         run(x, "lost() = 0", "letters(2) = 2");
+    }
+
+    /** Neither of the OATHS ahead nor of a text with a FAULT is anything left in the next one. */
+    private void nothingStaysOfTexts() {
+        for (String ahead : new String[] {FULL_TEXT, FULL_TEXT + ";", FULL_TEXT.substring(0, FULL_TEXT.length() - 1), Check.EXAMPLE + ";oath"}) {
+            SworeCaptain x = new SworeCaptain();
+            for (int i = 0; i < 3; i++) {
+                Check.tell(x, ahead);
+                check.due(x, "the small one", Check.tell(x, LONE.replace(" w ", " g ").replace(" h ", " a ")), 1, 0);
+                run(x, "size(0) = 5", "size(1) = 1", "size(2) = 1", "size(3) = 0", "size(4) = 1", "size(5) = 0", "size(6) = 0", "size(7) = 0",
+                    "size(8) = 0", "harbour(0, 0) = 1", "harbour(0, 1) = 1", "harbour(0, 2) = 0", "harbour(0, 3) = 1", "woman(0, 0) = 0",
+                    "woman(0, 2) = 1", "woman(0, 4) = 0", "harbour(1, 0) = -1 ! 1", "woman(1, 0) = -1 ! 1", "lost() = 0", "judge() = -2");
+            }
+        }
     }
 
     /** "NONE: .. 4 (the OATH stays)", and all that is NOW by it; THE TAPE is empty. */

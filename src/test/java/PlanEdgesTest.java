@@ -30,6 +30,7 @@ public final class PlanEdgesTest extends Edges {
         t.promise25();
         t.promise26();
         t.promise27();
+        t.oneBehindTheOther();
         t.check.end();
     }
 
@@ -151,6 +152,12 @@ public final class PlanEdgesTest extends Edges {
             answers(UNDER_WAY, "lettersAt(5, " + i + ")", 0);
             answers(NO_SEA, "lettersAt(5, " + i + ")", 0);
         }
+        // In isle, with nothing left to bring: the first row of those he can sail.
+        Scene idle = new Scene("nothing to bring", Check.EXAMPLE, "sail(1)", "sail(2)", "sail(2)", "sail(2)", "sail(2)");
+        answers(idle, "letters(5)", 0);
+        answers(idle, "lettersAt(1, 0)", 1);
+        bounds(idle, "lettersAt(5, #)", 0, 1, 4, 0, NONE_SUCH);
+        answers(idle, "lettersAt(5, 1)", 0);
     }
 
     /** "each to its harbour at the landing told, or ahead of it"; not by being where he is NOW. */
@@ -244,5 +251,18 @@ public final class PlanEdgesTest extends Edges {
         answers(FULL, "bells()", 1);
         answers(FREED, "bells()", 1);
         answers(LAST, "bells()", 1);
+    }
+
+    /** Nothing is left of a question in the next one: from many to few, refused ones between, from another NOW. */
+    private void oneBehindTheOther() {
+        run(UNDER_WAY.make(), "routes(3) = 1", "routes(2) = 4", "routes(2) = 4", "routes(1) = 3", "routes(4) = -1 ! 2", "routes(3) = 1 ! 0",
+            "route(2, false) = 123", "route(1, false) = 9", "route(3, true) = 250", "mean(3, false) = 19", "mean(1, false) = 9",
+            "routeAt(3, 2) = 3", "routeAt(1, 0) = 2", "routeAt(1, 1) = -1 ! 1", "sail(1) = 4", "sail(1) = 5", "sail(1) = 6", "routes(1) = 0",
+            "route(1, true) = 1", "mean(1, false) = 0", "routeAt(1, 0) = -1 ! 6", "undo() = 1", "routes(1) = 2", "routeAt(1, 0) = 2");
+        run(TOLD.make(), "letters(5) = 3", "letters(1) = 1", "letters(4) = 3", "letters(0) = 0", "lettersAt(4, 1) = 2", "lettersAt(1, 0) = 0",
+            "letters(2) = 2", "lettersAt(2, 0) = 1", "letters(6) = -1 ! 2", "letters(2) = 2 ! 0", "sail(1) = 1", "letters(5) = 2",
+            "lettersAt(5, 0) = 2", "sail(1) = 2", "letters(5) = 1", "lettersAt(5, 0) = 0", "undo() = 1", "undo() = 1", "letters(5) = 3",
+            "lettersAt(5, 0) = 1");
+        run(FULL_LATER.make(), "routes(3) = 120", "routes(3) = 120", "routes(1) = 6", "letters(5) = 2", "letters(2) = 2", "letters(1) = 1");
     }
 }

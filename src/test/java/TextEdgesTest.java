@@ -1,3 +1,7 @@
+import java.util.ArrayList;
+import java.util.Arrays;
+import java.util.List;
+
 /** Terms I: the bounds of TOKENS, of numbers, of how many there may be; which FAULT, and where. */
 public final class TextEdgesTest extends Edges {
     private static final String SWORN = "oath years 5 trial 1";
@@ -16,9 +20,11 @@ public final class TextEdgesTest extends Edges {
         t.wordsOfOneToEight();
         t.wholesOfOneToThree();
         t.togetherAndApart();
+        t.everyTokenOfEveryLine();
         t.namesThatAreNone();
         t.boundsOfNumbers();
         t.fullAndOneMore();
+        t.asManyNamesAsThereAre();
         t.leastOfOnePlace();
         t.firstFromTheLeft();
         t.theEnd();
@@ -136,9 +142,83 @@ public final class TextEdgesTest extends Edges {
         faulty(";" + SWORN, 1, 0);
     }
 
+    private static final List<String> LINE_WORDS =
+        Arrays.asList("oath", "harbour", "sea", "woman", "rival", "letter", "hand", "nearly");
+    private static final List<String> OTHER_WORDS = Arrays.asList("years", "trial", "news", "worth", "in", "heart", "born", "odds", "by",
+        "joined", "part", "landing", "age");
+    private static final List<String> KINDS = Arrays.asList("plain", "proud", "sold", "half");
+
+    /** "1 FORM: .. TOKEN with which no OATH goes on (the end: its place)": at each place of each sort of LINE. */
+    private void everyTokenOfEveryLine() {
+        everyToken("", "oath years 5 trial 1");
+        String[] lines = {"harbour z news 1 worth 1", "sea h g", "woman z plain in h heart 1 born 1", "rival w odds 1", "letter h by 1",
+            "hand z joined 1 part 1", "nearly landing 1 age 16"};
+        for (String line : lines) {
+            everyToken(WHOLE + ";", line);
+            good(WHOLE + ";" + line, line.startsWith("woman") ? 2 : 1);
+            faulty(WHOLE + ";" + line + ";", 1, WHOLE.length() + line.length() + 2);
+        }
+    }
+
+    private void everyToken(String ahead, String line) {
+        String[] tokens = line.split(" ");
+        String text = ahead + tokens[0] + " ";
+        for (int i = 1; i <= tokens.length; i++) {
+            boolean behind = i == tokens.length;
+            List<String> wrong = new ArrayList<>(LINE_WORDS);
+            if (behind || OTHER_WORDS.contains(tokens[i]) || KINDS.contains(tokens[i]) || tokens[i].matches("[0-9]+")) {
+                wrong.addAll(OTHER_WORDS);
+                wrong.addAll(KINDS);
+                wrong.add("zz");
+            }
+            if (behind || !tokens[i].matches("[0-9]+")) {
+                wrong.add("7");
+            }
+            if (!behind) {
+                wrong.add(";");
+                wrong.remove(tokens[i]);
+                wrong.removeAll(KINDS.contains(tokens[i]) ? KINDS : List.of());
+                faulty(text, 1, text.length());
+            }
+            for (String word : wrong) {
+                faulty(text + word, 1, text.length());
+                faulty(text + word + line.substring(line.indexOf(' ')), 1, text.length());
+            }
+            text += behind ? "" : tokens[i] + " ";
+        }
+    }
+
+    /** 6 harbours, 8 women and 5 hands have 19 NAMES; the last told is known, and so is the first. */
+    private void asManyNamesAsThereAre() {
+        StringBuilder text = new StringBuilder(SWORN);
+        for (char name = 'a'; name <= 'e'; name++) {
+            text.append(";hand ").append(name).append(" joined 1 part 1");
+        }
+        for (char name = 'f'; name <= 'k'; name++) {
+            text.append(";harbour ").append(name).append(" news 1 worth 1");
+        }
+        for (char name = 'l'; name <= 's'; name++) {
+            text.append(";woman ").append(name).append(" plain in k heart 1 born 1");
+        }
+        good(text.toString(), 8);
+        run(good(text + ";rival s odds 1;rival l odds 1;letter f by 1;letter k by 1;sea f k", 8), "woman(7, 4) = 1", "woman(0, 4) = 1",
+            "harbour(0, 2) = 32", "harbour(5, 2) = 1", "size(4) = 8", "size(7) = 5", "size(2) = 6");
+        faulty(text + ";rival a odds 1", 2, text.length() + 7);
+        faulty(text + ";rival k odds 1", 2, text.length() + 7);
+        faulty(text + ";letter s by 1", 2, text.length() + 8);
+        faulty(text + ";letter e by 1", 2, text.length() + 8);
+        faulty(text + ";letter t by 1", 2, text.length() + 8);
+        // The same NAME told again by the last LINE there is room for.
+        String one = ";woman s plain in k heart 1 born 1";
+        String fewer = text.substring(0, text.length() - one.length());
+        for (char name = 'a'; name <= 'r'; name++) {
+            faulty(fewer + ";woman " + name + " plain in k heart 1 born 1", 3, fewer.length() + 7);
+        }
+    }
+
     /** "NAMES are WORDS but oath, harbour, sea, woman, rival, letter, hand, nearly". */
     private void namesThatAreNone() {
-        for (String word : new String[] {"oath", "harbour", "sea", "woman", "rival", "letter", "hand", "nearly"}) {
+        for (String word : LINE_WORDS) {
             faulty(SWORN + ";harbour " + word + " news 1 worth 1", 1, 29);
             faulty(BASE + ";woman " + word + " plain in h heart 1 born 1", 1, BASE.length() + 7);
             faulty(BASE + ";woman w plain in " + word, 1, BASE.length() + 18);
@@ -148,8 +228,8 @@ public final class TextEdgesTest extends Edges {
             faulty(WHOLE + ";rival " + word, 1, WHOLE.length() + 7);
             faulty(WHOLE + ";letter " + word, 1, WHOLE.length() + 8);
         }
-        String[] others = {"years", "trial", "news", "worth", "plain", "proud", "sold", "half", "in", "heart", "born", "odds", "by",
-            "joined", "part", "landing", "age"};
+        List<String> others = new ArrayList<>(OTHER_WORDS);
+        others.addAll(KINDS);
         for (String word : others) {
             good(SWORN + ";harbour " + word + " news 1 worth 1;woman w plain in " + word + " heart 1 born 1", 1);
             good(BASE + ";woman " + word + " plain in h heart 1 born 1;rival " + word + " odds 1", 1);

@@ -16,6 +16,7 @@ public final class TradeEdgesTest extends Edges {
         t.promise31Rests();
         t.promise32();
         t.promise33();
+        t.oneBehindTheOther();
         t.check.end();
     }
 
@@ -151,5 +152,13 @@ public final class TradeEdgesTest extends Edges {
         answers(last, "bestHand(999, 1)", 2);
         answers(last, "bestHand(999, 7)", 2);
         answers(last, "bestHand(999, 8)", 0);
+    }
+
+    /** Nothing is left of a question in the next one. */
+    private void oneBehindTheOther() {
+        run(TOLD.make(), "part(0, 100, 3) = 67", "part(1, 100, 3) = 33", "part(0, 999, 0) = 0", "part(1, 999, 0) = 0", "bestHand(100, 3) = 0",
+            "bestHand(100, 0) = -2", "bestHand(100, 30) = 1", "bestHand(0, 30) = -2", "part(0, 1000, 3) = -1 ! 2", "part(0, 0, 3) = 0 ! 0",
+            "part(0, 100, 3) = 67");
+        run(FULL.make(), "part(2, 6, 1) = 1", "part(3, 6, 1) = 0", "part(2, 6, 1) = 1", "rests(5) = 11", "rests(0) = 10", "rests(5) = 11");
     }
 }

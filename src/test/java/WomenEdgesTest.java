@@ -303,5 +303,15 @@ public final class WomenEdgesTest extends Edges {
         answers(FREED, "bestYears(9)", 5);
         answers(TOLD, "bestYears(3)", 8);
         answers(UNDER_WAY, "bestYears(3)", 8);
+        // All women of a full OATH: at landing 2 by 8 years, at landing 3 by 6 (of 18), at landing 4 by 5.
+        bounds(FULL, "bestYears(#)", 0, 5, 30, 5, NUMBER);
+        answers(FULL, "bestYears(2)", 8);
+        answers(FULL, "bestYears(3)", 6);
+        answers(FULL, "bestYears(4)", 5);
+        // At landing 9 by 9 years (81) one woman of 49, by 5 to 8 nobody.
+        answers(FULL, "bestYears(9)", 9);
+        // The sum counts: at landing 5 by 9 years two women of 30 each, by fewer one of 50.
+        answers(new Scene("two of 30", "oath years 5 trial 1;harbour h news 0 worth 0;woman a proud in h heart 50 born 0;"
+            + "woman b proud in h heart 30 born 25;woman c proud in h heart 30 born 25"), "bestYears(5)", 9);
     }
 }
