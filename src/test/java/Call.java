@@ -4,6 +4,7 @@ import java.lang.reflect.Modifier;
 import java.util.HashMap;
 import java.util.Map;
 import java.util.NoSuchElementException;
+import java.util.Set;
 
 /** A call of the face told as a text: "love(0, 31)", "bid(1, 2, 3, true)", "sail(MAX)". */
 final class Call {
@@ -38,6 +39,23 @@ final class Call {
         Object[] values = new Object[words.length];
         for (int i = 0; i < words.length; i++) {
             values[i] = value(words[i]);
+        }
+        return new Call(method, values);
+    }
+
+    static Set<String> names() {
+        return FACE.keySet();
+    }
+
+    /** The call with 1 for every number: within the bounds of those that have any but years. */
+    static Call plainest(String name) {
+        Method method = FACE.get(name);
+        if (method == null) {
+            throw new IllegalStateException("no such call: " + name);
+        }
+        Object[] values = new Object[method.getParameterCount()];
+        for (int i = 0; i < values.length; i++) {
+            values[i] = method.getParameterTypes()[i] == boolean.class ? (Object) true : (Object) 1;
         }
         return new Call(method, values);
     }

@@ -109,6 +109,11 @@ public final class TextEdgesTest extends Edges {
                 }
             }
         }
+        for (char c = 'a'; c <= 'z'; c++) {
+            // One letter however often: each is another NAME.
+            good(SWORN + ";harbour " + c + " news 1 worth 1;harbour " + c + c + " news 1 worth 1;woman " + c + c + c + " plain in " + c
+                + " heart 1 born 1", 1);
+        }
         faulty(SWORN + ";harbour abcdefghi news 1 worth 1", 1, 29);
         faulty(SWORN + ";harbour abcdefghijklmnopqrstuvwxyz", 1, 29);
         faulty("harbourss", 1, 0);
